@@ -55,17 +55,24 @@ public final class RoundTest {
         C.due(f, "BEATS stay", f.beats(0, 1) + f.beats(1, 1), 0, 0);
     }
 
-    /** Two FIRING ones push each other by 1,700 once a round of 800; a PLAIN one needs 2,500: together 20,000. */
-    private static BeatBench twentyThousand() {
+    /** Two FIRING ones of a ring of 2,500 that push each other once a round: their round is 2,500 less the push. */
+    private static BeatBench pair(int push) {
         BeatBench x = new BeatBench();
         x.sheet(0, 2, 1);
-        x.write(0, 0, 1700);
+        x.write(0, 0, push);
         x.push(0, 1);
         x.ring(2500);
         x.beater(2, 2499);
         x.beater(2, 299);
         x.road(0, 1, true);
         x.road(1, 0, true);
+        C.due(x, "round(1) of the pair", x.round(1), 2500 - push, 0);
+        return x;
+    }
+
+    /** A round of 800, and a PLAIN one's of 2,500: together 20,000. */
+    private static BeatBench twentyThousand() {
+        BeatBench x = pair(1700);
         x.beater(0, 0);
         return x;
     }
@@ -120,15 +127,7 @@ public final class RoundTest {
      * one is set so that the first of the pair meets it late, as told by the same pair on numbers of its own.
      */
     private static void meetsLate() {
-        BeatBench x = new BeatBench();
-        x.sheet(0, 2, 1);
-        x.write(0, 0, 1701);
-        x.push(0, 1);
-        x.ring(2500);
-        x.beater(2, 2499);
-        x.beater(2, 299);
-        x.road(0, 1, true);
-        x.road(1, 0, true);
+        BeatBench x = pair(1701);
         int last = -1;
         for (int phase = 0; phase < 2500 && last < 0; phase++) {
             int first = pairMeets(phase);
