@@ -718,20 +718,20 @@ public final class BeatBench {
             int mine = at[beater];
             int sum = 0;
             int parts = 1;
+            // The dearest lines of a long go(): no call is made in them.
             for (int k = 0; k < many; k++) {
-                if (holds(seen, k)) {
-                    sum += howFarAhead(at[k] - mine);
+                if ((seen >> k & 1) != 0) {
+                    int ahead = at[k] - mine;
+                    if (2 * ahead > ring) {
+                        ahead -= ring;
+                    } else if (2 * ahead <= -ring) {
+                        ahead += ring;
+                    }
+                    sum += ahead;
                     parts++;
                 }
             }
             return parts > 1 ? sum / parts : 0;
-        }
-
-        private int howFarAhead(int difference) {
-            if (2 * difference > ring) {
-                return difference - ring;
-            }
-            return 2 * difference <= -ring ? difference + ring : difference;
         }
 
         private void fire(int[] tally) {
@@ -962,7 +962,10 @@ public final class BeatBench {
                 if (home[s] == NOT_FOLLOWED) {
                     followFrom(s, states);
                 }
-                basin[home[s]]++;
+                int least = home[s];
+                if (least >= 0 && least < states) {
+                    basin[least]++;
+                }
             }
         }
 
@@ -1114,14 +1117,26 @@ public final class BeatBench {
             return a == NO_SPAN || b == NO_SPAN ? NO_SPAN : a + b;
         }
 
+        /** The product comes into a third row, never into one of the two. */
         private void multiply(long[] a, long[] b, long[] into) {
+            Arrays.fill(into, NO_SPAN);
             for (int i = 0; i < size; i++) {
-                for (int j = 0; j < size; j++) {
-                    long best = NO_SPAN;
-                    for (int k = 0; k < size; k++) {
-                        best = Math.max(best, join(a[place(i, k)], b[place(k, j)]));
+                for (int k = 0; k < size; k++) {
+                    long first = a[place(i, k)];
+                    if (first != NO_SPAN) {
+                        takeBetter(first, b, k, into, i);
                     }
-                    into[place(i, j)] = best;
+                }
+            }
+        }
+
+        private void takeBetter(long first, long[] b, int k, long[] into, int i) {
+            int from = place(k, 0);
+            int to = place(i, 0);
+            for (int j = 0; j < size; j++) {
+                long second = b[from + j];
+                if (second != NO_SPAN && first + second > into[to + j]) {
+                    into[to + j] = first + second;
                 }
             }
         }

@@ -1,3 +1,5 @@
+import java.util.Random;
+
 /** Promises 28 to 36: the table, its pace, a critical round, sums, longest ways, when sums come again, and OUT. */
 public final class SumTest {
     private static final Check C = new Check("SumTest");
@@ -11,6 +13,7 @@ public final class SumTest {
         widest();
         sums();
         farSums();
+        sumsByHalves();
         longest();
         agains();
         againEdges();
@@ -200,6 +203,60 @@ public final class SumTest {
         C.due(z, "sums(8, 0, 0)", z.sums(8, 0, 0), 7, 0);
         C.due(z, "sums(10^12, 0, 0): 10^12 - 10 by threes, and two fives", z.sums(FARTHEST, 0, 0),
             FARTHEST - 10 + 8, 0);
+    }
+
+    /** A row of 2 n ROADS, or one more, is two rows of n, and one ROAD: held so from one ROAD to 10^12 and a few less. */
+    private static void sumsByHalves() {
+        Random chance = new Random(7);
+        for (int run = 0; run < 40; run++) {
+            int size = 1 + chance.nextInt(3);
+            BeatBench x = new BeatBench();
+            x.table(size);
+            for (int i = 0; i < size; i++) {
+                for (int j = 0; j < size; j++) {
+                    if (chance.nextInt(3) > 0) x.span(i, j, chance.nextInt(2097153) - 1048576);
+                }
+            }
+            long[][] one = allSums(x, 1, size);
+            long[][] half = one;
+            long last = FARTHEST - chance.nextInt(1000);
+            for (int bit = 62 - Long.numberOfLeadingZeros(last); bit >= 0; bit--) {
+                long n = last >> bit;
+                long[][] due = product(half, half);
+                due = (n & 1) == 0 ? due : product(due, one);
+                half = allSums(x, n, size);
+                for (int i = 0; i < size; i++) {
+                    for (int j = 0; j < size; j++) {
+                        C.due("run " + run + ": sums(" + n + ", " + i + ", " + j + ")", half[i][j], due[i][j]);
+                    }
+                }
+            }
+        }
+    }
+
+    private static long[][] allSums(BeatBench x, long n, int size) {
+        long[][] sums = new long[size][size];
+        for (int i = 0; i < size; i++) {
+            for (int j = 0; j < size; j++) {
+                long sum = x.sums(n, i, j);
+                sums[i][j] = x.status() == 8 ? Long.MIN_VALUE : sum;
+            }
+        }
+        return sums;
+    }
+
+    private static long[][] product(long[][] a, long[][] b) {
+        long[][] made = new long[a.length][a.length];
+        for (int i = 0; i < a.length; i++) {
+            for (int j = 0; j < a.length; j++) {
+                made[i][j] = Long.MIN_VALUE;
+                for (int k = 0; k < a.length; k++) {
+                    boolean none = a[i][k] == Long.MIN_VALUE || b[k][j] == Long.MIN_VALUE;
+                    if (!none) made[i][j] = Math.max(made[i][j], a[i][k] + b[k][j]);
+                }
+            }
+        }
+        return made;
     }
 
     private static void longest() {
