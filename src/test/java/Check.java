@@ -6,9 +6,15 @@ final class Check {
     private final String test;
     private int asked = 0;
     private int wrong = 0;
+    private String sentence = "";
 
     Check(String test) {
         this.test = test;
+    }
+
+    /** From here on the answers hold this sentence of the document; DocTest asks that none is left out. */
+    void about(String words) {
+        sentence = words;
     }
 
     void due(String call, long got, long want) {
@@ -53,16 +59,24 @@ final class Check {
     void out(BeatBench x, int... bytes) {
         int before = x.status();
         for (int k = 0; k < bytes.length; k++) {
-            due("out(" + k + ")", x.out(k), bytes[k]);
+            due("out(" + k + ")", outOrLess(x, k), bytes[k]);
         }
         outIsNone(x, bytes.length);
         due("status() behind out()", x.status(), before);
     }
 
+    private static int outOrLess(BeatBench x, int k) {
+        try {
+            return x.out(k);
+        } catch (NoSuchElementException none) {
+            return Integer.MIN_VALUE;
+        }
+    }
+
     private void tell(String text) {
         wrong++;
         if (wrong <= MOST_TOLD) {
-            System.out.println(test + ": " + text);
+            System.out.println(test + ": " + text + (sentence.isEmpty() ? "" : "  <- " + sentence));
         }
     }
 

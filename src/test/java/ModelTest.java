@@ -4,7 +4,9 @@ import java.util.Random;
 /** Runs of chance calls (of fixed seeds), each answer and STATUS held against Model. */
 public final class ModelTest {
     private static final int RUNS = 600;
-    private static final int CALLS = 250;
+    private static final int CROWDS = 30;
+    // With status() behind each an object has at most 512 calls.
+    private static final int CALLS = 230;
     private static final Check C = new Check("ModelTest");
 
     private final Random chance;
@@ -27,7 +29,31 @@ public final class ModelTest {
             run.start();
             for (int n = 0; n < CALLS; n++) run.call(seed);
         }
+        for (int seed = 0; seed < CROWDS; seed++) new ModelTest(seed).crowd(seed);
         C.end();
+    }
+
+    /** A bench with all BEATERS and many ROADS, TICK by TICK. */
+    private void crowd(long seed) {
+        setRing(seed % 3 == 0 ? in(3000, 4096) : in(2, 60));
+        int[] pushes = {in(0, 3), in(0, 9), in(0, ring / 8 + 1), in(0, ring / 4 + 1)};
+        same(seed, "sheet(0, 2, 4)", x.sheet(0, 2, 4), m.sheet(0, 2, 4));
+        for (int k = 0; k < 4; k++) same(seed, "write", x.write(0, k, pushes[k]), m.write(0, k, pushes[k]));
+        same(seed, "push(0, 4)", x.push(0, 4), m.push(0, 4));
+        for (int k = 0; k < 24; k++) beater(seed % 2 == 0 ? in(0, 3) : in(1, 2), in(0, ring - 1));
+        for (int k = 0; k < 60; k++) {
+            int a = in(0, 23);
+            int b = in(0, 23);
+            same(seed, "road(" + a + ", " + b + ", true)", x.road(a, b, true), m.road(a, b, true));
+        }
+        for (int turn = 0; turn < 3; turn++) {
+            int ticks = turn == 0 ? 1 : in(1, ring);
+            same(seed, "go(" + ticks + ")", x.go(ticks), m.go(ticks));
+            for (int k = 0; k < 24; k++) {
+                same(seed, "beats(" + k + ", 0)", x.beats(k, 0), m.beats(k, 0));
+                same(seed, "beats(" + k + ", 1)", x.beats(k, 1), m.beats(k, 1));
+            }
+        }
     }
 
     private void start() {
@@ -60,8 +86,10 @@ public final class ModelTest {
     }
 
     private void same(long seed, String call, long got, long want) {
-        String where = "seed " + seed + ": " + call + (got == want && x.status() == m.status ? "" : " " + m.tell());
-        C.due(x, where, got, want, m.status);
+        int status = x.status();
+        String where = "seed " + seed + ": " + call + (got == want && status == m.status ? "" : " " + m.tell());
+        C.due(where, got, want);
+        C.due("status() behind " + where, status, m.status);
     }
 
     private void setRing(int parts) {

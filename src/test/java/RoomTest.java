@@ -63,7 +63,7 @@ public final class RoomTest {
 
     private static void growing() {
         BeatBench x = new BeatBench();
-        for (int ring = 20; ring <= 144; ring++) {
+        for (int ring = 46; ring <= 144; ring++) {
             x.ring(ring);
             x.beater(0, 0);
             x.beater(0, 0);

@@ -14,6 +14,7 @@ public final class RoundTest {
     }
 
     private static void plainRounds() {
+        C.about("What 0: LEAD, 1: ROUND (2; 8: no BEATERS; 10). The STATE stays.");
         BeatBench x = new BeatBench();
         x.ring(4096);
         x.beater(0, 17);
@@ -28,6 +29,7 @@ public final class RoundTest {
 
     /** A PULLED one far behind a HELD one comes nearer by half each TICK, and stays one behind it. */
     private static void leads() {
+        C.about("LEAD TICKS on, then again and again the same after ROUND TICKS, both least;");
         BeatBench x = new BeatBench();
         x.ring(64);
         x.beater(3, 20);
@@ -78,6 +80,7 @@ public final class RoundTest {
     }
 
     private static void justWithin() {
+        C.about("SPENT (10) if both together are above 20,000.");
         BeatBench x = twentyThousand();
         C.due(x, "round(0)", x.round(0), 0, 0);
         C.due(x, "round(1)", x.round(1), 20000, 0);
@@ -88,6 +91,7 @@ public final class RoundTest {
 
     /** One more that is 2 behind the PLAIN one is 1 behind it from the first TICK on: LEAD 1. */
     private static void justBeyond() {
+        C.about("SPENT (10) if both together are above 20,000.");
         BeatBench x = twentyThousand();
         x.beater(1, 2498);
         x.road(3, 2, true);
@@ -104,6 +108,7 @@ public final class RoundTest {
     }
 
     private static void meets() {
+        C.about("How many TICKS from now on a set is IN STEP first, 0 if it is now (2; 8: never;");
         BeatBench x = new BeatBench();
         C.due(x, "meet(0) of no BEATERS", x.meet(0), 0, 0);
         x.ring(12);
@@ -127,6 +132,7 @@ public final class RoundTest {
      * one is set so that the first of the pair meets it late, as told by the same pair on numbers of its own.
      */
     private static void meetsLate() {
+        C.about("10: not within 20,000, and it can't be told). The STATE stays.");
         BeatBench x = pair(1701);
         int last = -1;
         for (int phase = 0; phase < 2500 && last < 0; phase++) {
@@ -171,6 +177,7 @@ public final class RoundTest {
     }
 
     private static void allBeaters() {
+        C.about("BEATERS, at most 24,");
         BeatBench x = new BeatBench();
         x.ring(4096);
         for (int k = 0; k < 24; k++) x.beater(0, 170 * k);

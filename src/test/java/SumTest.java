@@ -210,21 +210,20 @@ public final class SumTest {
         Random chance = new Random(7);
         for (int run = 0; run < 40; run++) {
             int size = 1 + chance.nextInt(3);
-            BeatBench x = new BeatBench();
-            x.table(size);
+            Integer[][] spans = new Integer[size][size];
             for (int i = 0; i < size; i++) {
                 for (int j = 0; j < size; j++) {
-                    if (chance.nextInt(3) > 0) x.span(i, j, chance.nextInt(2097153) - 1048576);
+                    if (chance.nextInt(3) > 0) spans[i][j] = chance.nextInt(2097153) - 1048576;
                 }
             }
-            long[][] one = allSums(x, 1, size);
+            long[][] one = allSums(spans, 1);
             long[][] half = one;
             long last = FARTHEST - chance.nextInt(1000);
             for (int bit = 62 - Long.numberOfLeadingZeros(last); bit >= 0; bit--) {
                 long n = last >> bit;
                 long[][] due = product(half, half);
                 due = (n & 1) == 0 ? due : product(due, one);
-                half = allSums(x, n, size);
+                half = allSums(spans, n);
                 for (int i = 0; i < size; i++) {
                     for (int j = 0; j < size; j++) {
                         C.due("run " + run + ": sums(" + n + ", " + i + ", " + j + ")", half[i][j], due[i][j]);
@@ -234,7 +233,11 @@ public final class SumTest {
         }
     }
 
-    private static long[][] allSums(BeatBench x, long n, int size) {
+    private static long[][] allSums(Integer[][] spans, long n) {
+        int size = spans.length;
+        BeatBench x = new BeatBench();
+        x.table(size);
+        for (int i = 0; i < size; i++) for (int j = 0; j < size; j++) if (spans[i][j] != null) x.span(i, j, spans[i][j]);
         long[][] sums = new long[size][size];
         for (int i = 0; i < size; i++) {
             for (int j = 0; j < size; j++) {
