@@ -1063,7 +1063,8 @@ public final class BeatBench {
 
     /** The table of spans, in rows of ten: span (i, j) stands at place 10 i + j. */
     private static final class Spans {
-        private static final long NO_SPAN = Long.MIN_VALUE;
+        // Far below every sum: 1,000,000,000,000 of the least spans are not below -(2 to the power of 60).
+        private static final long NO_SPAN = 1L << 63;
         private static final int CELLS = WIDEST_TABLE * WIDEST_TABLE;
         private static final int FARTHEST_AGAIN = 200;
 

@@ -170,7 +170,7 @@ public final class StatusTest {
     private static void cantBeOfSheets() {
         C.about("2 a number that can't be;");
         for (int many : new int[] {101, 102, GREATEST}) {
-            sheet(2, 0, 2, many);
+            for (int sort = 0; sort < 4; sort++) sheet(2, 0, sort, many);
             sheet(2, 3, 2, many);
         }
         phases(2, 0);
@@ -307,7 +307,7 @@ public final class StatusTest {
     private static void belowNought() {
         C.about("6 below 0 (a SHEET's length).");
         for (int many : new int[] {-1, -2, LEAST}) {
-            sheet(6, 0, 2, many);
+            for (int sort = 0; sort < 4; sort++) sheet(6, 0, sort, many);
             sheet(6, 3, 0, many);
             pour(6, 0, 0, 2, 0, many);
             pour(6, 0, 0, 0, 0, many);
