@@ -1,8 +1,8 @@
 import java.util.NoSuchElementException;
 
 /**
- * Tells all that can be told of an object, as a text: first what can be asked, then what can only be told by changing
- * it (sorts, ROADS, the PUSH TABLE). Two objects with like texts are alike; the object is of no use behind it.
+ * Tells an object as a text: first what can be asked, then what can only be told by changing it (sorts, ROADS, the PUSH
+ * TABLE). Of long rows only the first few are told, so that it stays within 512 calls. The object is of no use behind it.
  */
 final class Probe {
     private static final long ALL_SORTS = (1L << 40) + (1L << 20) + (1L << 10) + 1;

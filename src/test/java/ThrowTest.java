@@ -3,7 +3,7 @@ import java.util.Random;
 import java.util.function.Supplier;
 
 /**
- * No call throws, whatever its numbers are, on benches and tables that are empty, full and between (LANGUAGE.md, rules 6
+ * No call throws, with numbers at and beyond all bounds, on benches and tables that are empty, full and between (LANGUAGE.md, rules 6
  * and 7); out() alone throws NoSuchElementException, and nothing else. A refused call gives NONE or false.
  */
 public final class ThrowTest {
