@@ -254,6 +254,12 @@ public final class PromiseTest {
         C.due(x, "count(1)", x.count(1), 2, 0);
         C.yes(x, "ring(4096)", x.ring(4096));
         C.due(x, "count(1)", x.count(1), 4096, 0);
+        x.span(3, 3, 1);
+        C.due(x, "critical()", x.critical(), 1, 0);
+        C.yes(x, "ring(12)", x.ring(12));
+        C.out(x, 3);
+        C.due(x, "the SPANS stay", x.pace(0), 1, 0);
+        C.due(x, "TICKS stay", x.count(0), 1, 0);
     }
 
     private static void promise8() {
